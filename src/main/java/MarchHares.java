@@ -284,7 +284,7 @@ public final class MarchHares {
         int orders = 0;
         for (int first = 0; first < ground.hares; first++) {
             if (holds(free, first)) {
-                orders += ordersWon(hare, first, now.strong(first), free ^ 1 << first);
+                orders += ordersWon(now, hare, first, now.strong(first), free ^ 1 << first);
             }
         }
         return orders;
@@ -504,19 +504,19 @@ public final class MarchHares {
         }
     }
 
-    /** In how many orders of those left a hare stands last, if one stands that is so strong now. */
-    private int ordersWon(int hare, int stands, int strength, int left) {
+    /** In how many orders of those left a hare stands last, if one stands that is so strong then. */
+    private static int ordersWon(Days days, int hare, int stands, int strength, int left) {
         if (left == 0) {
             return stands == hare ? 1 : 0;
         }
         int orders = 0;
         for (int next = 0; next < MOST_HARES; next++) {
             if (holds(left, next)) {
-                int rival = now.strong(next);
+                int rival = days.strong(next);
                 boolean stays = strength >= rival;
                 int winner = stays ? stands : next;
                 int weaker = Math.max(0, (stays ? strength : rival) - 1);
-                orders += ordersWon(hare, winner, weaker, left ^ 1 << next);
+                orders += ordersWon(days, hare, winner, weaker, left ^ 1 << next);
             }
         }
         return orders;
@@ -1150,7 +1150,9 @@ public final class MarchHares {
         private void closeLoop() {
             open--;
             int head = heads[open];
-            second[head] = length;
+            if (head < MOST_STEPS) {
+                second[head] = length;
+            }
             add(END, head, 0, 0);
         }
 
@@ -1178,10 +1180,15 @@ public final class MarchHares {
                 begun++;
                 if (kinds[at] == AGAIN) {
                     at = behindAgain(at);
-                } else {
-                    doOrRefuse(at, days);
-                    at++;
+                    continue;
                 }
+                if (isAllowed(at, days)) {
+                    doStep(at, days);
+                    done++;
+                } else {
+                    refused++;
+                }
+                at++;
             }
         }
 
@@ -1206,12 +1213,7 @@ public final class MarchHares {
             return at + 1;
         }
 
-        private void doOrRefuse(int at, Days days) {
-            if (!isAllowed(at, days)) {
-                refused++;
-                return;
-            }
-            done++;
+        private void doStep(int at, Days days) {
             switch (kinds[at]) {
                 case LEAP:
                     days.leapTo(first[at], second[at]);
@@ -1355,7 +1357,7 @@ public final class MarchHares {
         }
 
         boolean isCaught(int hare) {
-            return holds(row[CAUGHT], hare);
+            return (row[CAUGHT] >> hare & 1) == 1;
         }
 
         int sits(int hare) {
@@ -1615,12 +1617,20 @@ public final class MarchHares {
             }
             int all = (1 << down.forms - 1) - 1;
             for (int left = 0; left <= all; left++) {
-                for (int last = 0; last < down.forms; last++) {
+                settleFor(down, left);
+            }
+            least[all * MOST_FORMS] = leastWay(down, all, 0);
+            length = least[all * MOST_FORMS];
+            walk(down, all);
+        }
+
+        /** No way stands in a form that is left yet, nor in form 0 but at its beginning. */
+        private void settleFor(Down down, int left) {
+            for (int last = 1; last < down.forms; last++) {
+                if (!holds(left, last - 1)) {
                     least[left * MOST_FORMS + last] = leastWay(down, left, last);
                 }
             }
-            length = least[all * MOST_FORMS];
-            walk(down, all);
         }
 
         private int leastWay(Down down, int left, int last) {
