@@ -1,9 +1,17 @@
+import java.io.IOException;
+import java.nio.file.Files;
+import java.nio.file.Path;
 import java.util.NoSuchElementException;
 
 /** What the tests share: texts put on the tape, answers compared, refusals looked for. */
 final class Check {
+    static final Path DOCUMENT = Path.of("../shared/DOC.md");
+
     private int wrong = 0;
     private int seen = 0;
+    private int seenAhead = 0;
+    private String sentence = "";
+    private String document = "";
 
     interface Call {
         long answer();
@@ -13,8 +21,43 @@ final class Check {
         seen++;
         if (got != want) {
             wrong++;
-            System.out.println(what + " answered " + got + ", due is " + want);
+            System.out.println((sentence.isEmpty() ? "" : "\"" + sentence + "\": ") + what + " answered " + got
+                    + ", due is " + want);
         }
+    }
+
+    /** What comes next is due by this sentence, which must stand in the document word by word. */
+    void says(String words) {
+        closeSentence();
+        sentence = words;
+        seenAhead = seen;
+        if (isDocumentThere() && !document().contains(words)) {
+            wrong++;
+            System.out.println("no sentence of the document: " + words);
+        }
+    }
+
+    /** The answers are due all the same where only the tests were checked out. */
+    static boolean isDocumentThere() {
+        return Files.isReadable(DOCUMENT);
+    }
+
+    private void closeSentence() {
+        if (!sentence.isEmpty() && seen == seenAhead) {
+            wrong++;
+            System.out.println("no answer is looked at for: " + sentence);
+        }
+    }
+
+    private String document() {
+        if (document.isEmpty()) {
+            try {
+                document = Files.readString(DOCUMENT).replaceAll("\\s+", " ");
+            } catch (IOException e) {
+                throw new IllegalStateException("can't read " + DOCUMENT, e);
+            }
+        }
+        return document;
     }
 
     void illegal(String what, Call call) {
@@ -76,6 +119,7 @@ final class Check {
     }
 
     void end() {
+        closeSentence();
         System.out.println(seen + " answers, " + wrong + " not as due");
         if (wrong > 0 || seen == 0) {
             System.exit(1);

@@ -49,6 +49,28 @@ public final class LanguageTest {
         CHECK.due("NONE", MarchHares.NONE, -1);
     }
 
+    /** The face word by word as the document tells it, with what each call may throw. */
+    private static void faceAsTold(String source) throws IOException {
+        if (!Check.isDocumentThere()) {
+            return;
+        }
+        String document = Files.readString(Check.DOCUMENT);
+        int from = document.indexOf("```java");
+        String told = document.substring(from, document.indexOf("```", from + 3));
+        String written = source.replaceAll("\\s+", " ");
+        int lines = 0;
+        for (String line : told.split("\n")) {
+            if (line.startsWith("    public ") && line.endsWith(";")) {
+                String due = line.strip();
+                boolean constant = due.contains(" = ");
+                String head = constant ? due : due.substring(0, due.length() - 1) + " {";
+                CHECK.due("stands in the class: " + head, written.contains(head) ? 1 : 0, 1);
+                lines++;
+            }
+        }
+        CHECK.due("lines of the face", lines, FACE.split(" ").length + 2);
+    }
+
     private static void insides() {
         Set<String> open = new HashSet<>();
         for (Method m : MarchHares.class.getDeclaredMethods()) {
@@ -120,6 +142,7 @@ public final class LanguageTest {
     public static void main(String[] args) throws IOException {
         String source = Files.readString(SOURCE);
         face();
+        faceAsTold(source);
         insides();
         words(source);
         lengths(source);
