@@ -139,6 +139,19 @@ public final class LanguageTest {
         }
     }
 
+    /** Objects are made in constructors and where fields are told, else only to be thrown: calls use them again. */
+    private static void makings(String source) {
+        boolean constructor = false;
+        for (String line : source.split("\n")) {
+            constructor = line.equals("    public MarchHares() {") || constructor && !line.equals("    }");
+            boolean field = line.matches(" {8}(private )?final int\\[\\] \\w+ = new int\\[.*\\];")
+                    || line.matches(" {8}private final byte\\[\\] \\w+ = new byte\\[.*\\];");
+            if (line.contains("new ") && !line.strip().startsWith("//") && !line.strip().startsWith("/**")) {
+                CHECK.due("made in a call: " + line, constructor || field || line.contains("throw new ") ? 1 : 0, 1);
+            }
+        }
+    }
+
     public static void main(String[] args) throws IOException {
         String source = Files.readString(SOURCE);
         face();
@@ -146,6 +159,7 @@ public final class LanguageTest {
         insides();
         words(source);
         lengths(source);
+        makings(source);
         CHECK.end();
     }
 }
